@@ -315,6 +315,15 @@ final class Model {
         return messages > 0;
     }
 
+    /** Whether packet i is of a message with more younger ones on its link than can be kept. */
+    boolean isFromLongAgo(int i) {
+        if (i < 0 || i >= net.size()) {
+            return false;
+        }
+        Packet p = net.get(i);
+        return !p.ack() && p.number() + 32 < lines[p.w()][p.h()].messages.size();
+    }
+
     /** All clocks that the shard has done, applied from the beginning on. */
     private int value(int k) {
         int value = 0;

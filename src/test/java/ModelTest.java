@@ -16,7 +16,10 @@ public final class ModelTest {
         {10, 60, 20, 30, 2, 10, 0, 0, 4, 60, 2, 4, 0, 10, 3, 6, 3, 2, 3, 3},
         {90, 6, 2, 4, 2, 20, 10, 30, 20, 10, 0, 0, 1, 3, 3, 9, 3, 2, 3, 6},
         {30, 30, 10, 30, 2, 20, 20, 4, 30, 30, 3, 9, 9, 6, 3, 3, 3, 2, 3, 3},
+        {50, 20, 5, 5, 1, 180, 0, 0, 12, 0, 0, 0, 30, 2, 2, 2, 2, 1, 2, 2},
     };
+    // In the last of these ways, the oldest packets are left where they are for long.
+    private static final int LINGERING = WAYS.length - 1;
 
     private static final Due DUE = new Due("model");
     // What the runs met: a call that never meets its edge would prove nothing.
@@ -25,6 +28,7 @@ public final class ModelTest {
         "packets lost", "messages sent again", "doubles", "checkpoints with fewer kept",
         "recoveries after a checkpoint", "deliveries to a shard that is down", "early messages",
         "acks with news", "acks without news", "values that are not 0", "workers held",
+        "doubles from long ago",
     };
     private static final int[] MET = new int[MET_NAMES.length];
 
@@ -49,9 +53,10 @@ public final class ModelTest {
         GradientShards x = new GradientShards(workers, slack, rule);
         Model m = new Model(workers, slack, rule);
         String made = "run " + run + " of (" + workers + ", " + slack + ", " + rule + ")";
-        int[] way = WAYS[run % WAYS.length];
+        int way = run % WAYS.length;
         for (int call = 0; call < CALLS && !DUE.hasWrong(); call++) {
-            oneCall(x, m, random, drawKind(random, way), made + ", call " + call + ": ");
+            int i = way == LINGERING ? drawYoung(random, m.packets()) : drawPacket(random, m.packets());
+            oneCall(x, m, random, drawKind(random, WAYS[way]), i, made + ", call " + call + ": ");
         }
     }
 
@@ -92,12 +97,20 @@ public final class ModelTest {
         return luck < 10 ? random.nextInt(199) - 99 : random.nextInt(21) - 5;
     }
 
-    private static void oneCall(GradientShards x, Model m, Random random, int kind, String at) {
+    private static int drawPacket(Random random, int packets) {
+        return random.nextInt(3) == 0 ? 0 : draw(random, packets);
+    }
+
+    /** Seldom one of the three oldest, so that they meet a link that has gone far since. */
+    private static int drawYoung(Random random, int packets) {
+        return packets > 3 && random.nextInt(30) > 0 ? 3 + random.nextInt(packets - 3) : random.nextInt(60);
+    }
+
+    private static void oneCall(GradientShards x, Model m, Random random, int kind, int i, String at) {
         int w = draw(random, m.workers);
         int h = draw(random, 3);
         int k = draw(random, 6);
         int g = drawNumber(random);
-        int i = random.nextInt(3) == 0 ? 0 : draw(random, m.packets());
         meetBefore(m, kind, w, h, i);
         switch (kind) {
             case 0 -> DUE.is(at + "add(" + w + ", " + k + ", " + g + ")", x.add(w, k, g), m.add(w, k, g));
@@ -141,7 +154,9 @@ public final class ModelTest {
     }
 
     private static void deliver(GradientShards x, Model m, int i, String at) {
+        boolean isOld = m.isFromLongAgo(i);
         int due = m.deliver(i);
+        MET[14] += isOld && due == 2 ? 1 : 0;
         DUE.is(at + "deliver(" + i + ")", x.deliver(i), due);
         MET[8] += due == 3 ? 1 : 0;
         MET[10] += due == 4 ? 1 : 0;

@@ -26,6 +26,8 @@ public final class PromiseTest {
         promise6();
         promise7();
         promise7Order();
+        promise7EarlyDouble();
+        promise7LongAgo();
         promise7Down();
         promise8();
         promise9();
@@ -413,6 +415,51 @@ public final class PromiseTest {
         due.is("7: confirmed stays", x.unconfirmed(1, 2), 0);
         due.is("7: the other worker's link", x.unconfirmed(0, 2), 0);
         due.is("7: all is handled", x.early(2), 0);
+    }
+
+    private static void promise7EarlyDouble() {
+        GradientShards x = new GradientShards(1, 0, 0);
+        x.add(0, 0, 1);
+        x.add(0, 0, 2);
+        x.copy(1);
+        due.is("7: an early message", x.deliver(1), 1);
+        due.is("7: an early message again", x.deliver(1), 2);
+        due.is("7: early(0)", x.early(0), 1);
+        due.is("7: both acks have TURN 0", x.packet(1) + x.packet(2), 2);
+    }
+
+    /** A copy of message 0 stays in the net while 32 more messages are made and most are taken. */
+    private static void promise7LongAgo() {
+        GradientShards x = new GradientShards(1, 0, 0);
+        x.add(0, 0, 1);
+        x.copy(0);
+        for (int clock = 0; clock < 16; clock++) {
+            due.yes("7: advance(0)", x.advance(0));
+            deliverAllButTheOldest(x);
+            x.checkpoint(0);
+            if (clock < 15) {
+                due.yes("7: add(0, 0, 2)", x.add(0, 0, 2));
+            }
+        }
+        due.is("7: pull(0, 0)", x.pull(0, 0), -31);
+        x.add(0, 0, 3);
+        x.add(0, 0, 4);
+        due.is("7: message 32", x.packet(1), 32 * 32);
+        due.is("7: message 0 from long ago", x.deliver(0), 2);
+        due.is("7: its ack has TURN 32", x.packet(2), 1 + 32 * 32);
+        due.is("7: message 33", x.deliver(1), 1);
+        due.is("7: is early", x.early(0), 1);
+        due.is("7: message 32 is new", x.deliver(0), 1);
+        due.is("7: none is early", x.early(0), 0);
+        x.advance(0);
+        settle(x);
+        due.is("7: pull(0, 0) then", x.pull(0, 0), -38);
+    }
+
+    private static void deliverAllButTheOldest(GradientShards x) {
+        for (int i = 0; i < 40 && x.packets() > 1; i++) {
+            x.deliver(1);
+        }
     }
 
     private static void promise7Down() {
