@@ -1,9 +1,5 @@
-/** For each promise of the document: ordinary inputs, the edges that it names, and wrong inputs. */
+/** For each promise of the document what it says of ordinary use, with some edges and wrong inputs. */
 public final class PromiseTest {
-    private static final int[] WRONG_SHARDS = {-1, 3, Integer.MIN_VALUE, Integer.MAX_VALUE};
-    private static final int[] WRONG_KEYS = {-1, 6, Integer.MIN_VALUE, Integer.MAX_VALUE};
-    private static final int[] WRONG_WORKERS = {-1, 4, Integer.MIN_VALUE, Integer.MAX_VALUE};
-
     private static Due due;
 
     private PromiseTest() { }
@@ -50,19 +46,6 @@ public final class PromiseTest {
         due.close();
     }
 
-    /** Delivers packet 0 until none is there. */
-    private static void settle(GradientShards x) {
-        for (int i = 0; i < 200 && x.packets() > 0; i++) {
-            x.deliver(0);
-        }
-    }
-
-    private static void dropAll(GradientShards x) {
-        for (int i = 0; i < 24 && x.packets() > 0; i++) {
-            x.drop(0);
-        }
-    }
-
     private static void addTimes(GradientShards x, int k, int times) {
         for (int i = 0; i < times; i++) {
             due.yes("add number " + i + " for key " + k, x.add(0, k, 1));
@@ -73,7 +56,7 @@ public final class PromiseTest {
     private static void oneClock(GradientShards x, int g) {
         due.yes("add(0, 0, " + g + ")", x.add(0, 0, g));
         due.yes("advance(0)", x.advance(0));
-        settle(x);
+        Play.settle(x);
     }
 
     private static void promise1Workers() {
@@ -141,10 +124,10 @@ public final class PromiseTest {
 
     private static void promise2() {
         GradientShards x = new GradientShards(4, 0, 0);
-        for (int w : WRONG_WORKERS) {
+        for (int w : Play.noWorkers(4)) {
             due.no("2: add for worker " + w, x.add(w, 0, 1));
         }
-        for (int k : WRONG_KEYS) {
+        for (int k : Play.NO_KEYS) {
             due.no("2: add for key " + k, x.add(0, k, 1));
         }
         for (int g : new int[] {-100, 100, Integer.MIN_VALUE, Integer.MAX_VALUE}) {
@@ -175,12 +158,12 @@ public final class PromiseTest {
         due.no("2: the 21st, for the shard's other key", x.add(0, 3, 1));
         due.is("2: packets()", x.packets(), 20);
         due.yes("2: add on another link", x.add(0, 1, 1));
-        settle(x);
+        Play.settle(x);
         due.is("2: unconfirmed(0, 0)", x.unconfirmed(0, 0), 0);
         due.no("2: confirmed ones count, too", x.add(0, 0, 1));
         due.yes("2: advance(0)", x.advance(0));
         due.no("2: with more than 20", x.add(0, 0, 1));
-        settle(x);
+        Play.settle(x);
         due.is("2: checkpoint(0)", x.checkpoint(0), 21);
         due.yes("2: add when they are kept no more", x.add(0, 0, 1));
         due.is("2: pull(0, 0)", x.pull(0, 0), -11);
@@ -189,7 +172,7 @@ public final class PromiseTest {
 
     private static void promise3() {
         GradientShards x = new GradientShards(4, 1, 0);
-        for (int w : WRONG_WORKERS) {
+        for (int w : Play.noWorkers(4)) {
             due.no("3: advance(" + w + ")", x.advance(w));
         }
         due.yes("3: add(2, 1, 5)", x.add(2, 1, 5));
@@ -234,7 +217,7 @@ public final class PromiseTest {
 
     private static void promise4() {
         GradientShards x = new GradientShards(2, 1, 0);
-        for (int k : WRONG_KEYS) {
+        for (int k : Play.NO_KEYS) {
             due.no("4: ready for key " + k, x.ready(0, k));
         }
         for (int w : new int[] {-1, 2, Integer.MIN_VALUE, Integer.MAX_VALUE}) {
@@ -248,7 +231,7 @@ public final class PromiseTest {
         due.yes("4: ready for the other worker", x.ready(1, 5));
         x.advance(1);
         due.no("4: ready before the ENDs arrive", x.ready(0, 5));
-        settle(x);
+        Play.settle(x);
         due.yes("4: ready when the clock is done", x.ready(0, 5));
         x.kill(2);
         due.no("4: ready on a shard that is down", x.ready(1, 2));
@@ -267,10 +250,10 @@ public final class PromiseTest {
         due.is("5: pull(0, 1)", x.pull(0, 1), 0);
         due.is("5: pull(0, 3)", x.pull(0, 3), 0);
         due.is("5: pull(1, 0)", x.pull(1, 0), 0);
-        for (int k : WRONG_KEYS) {
+        for (int k : Play.NO_KEYS) {
             due.is("5: pull of key " + k, x.pull(0, k), 0);
         }
-        for (int w : WRONG_WORKERS) {
+        for (int w : Play.noWorkers(4)) {
             due.is("5: pull of worker " + w, x.pull(w, 0), 0);
         }
         x.advance(0);
@@ -291,7 +274,7 @@ public final class PromiseTest {
         for (int i = pushes.length; backwards && i >= 0; i--) {
             due.is("terms: a message out of turn", x.deliver(i), 1);
         }
-        settle(x);
+        Play.settle(x);
         return x.pull(0, 0);
     }
 
@@ -307,11 +290,11 @@ public final class PromiseTest {
         x.add(0, 3, 7);
         x.advance(0);
         x.add(0, 0, 70);
-        settle(x);
+        Play.settle(x);
         due.is("terms: each clock for itself", x.pull(0, 0), -170);
         due.is("terms: each key for itself", x.pull(0, 3), -7);
         x.advance(0);
-        settle(x);
+        Play.settle(x);
         due.is("terms: the clock that was open", x.pull(0, 0), -240);
     }
 
@@ -326,7 +309,7 @@ public final class PromiseTest {
         for (int w = 2; w >= 0; w--) {
             x.advance(w);
         }
-        settle(x);
+        Play.settle(x);
         due.is("terms: sum by ascending worker, 80 80 -70", x.pull(0, 1), -29);
         due.is("terms: sum by ascending worker, -50 99 99", x.pull(0, 4), -99);
     }
@@ -452,7 +435,7 @@ public final class PromiseTest {
         due.is("7: message 32 is new", x.deliver(0), 1);
         due.is("7: none is early", x.early(0), 0);
         x.advance(0);
-        settle(x);
+        Play.settle(x);
         due.is("7: pull(0, 0) then", x.pull(0, 0), -38);
     }
 
@@ -545,7 +528,7 @@ public final class PromiseTest {
         due.is("10: its ack", x.deliver(1), 4);
         due.is("10: message 1, 4 ago", x.tick(), 1);
         due.is("10: packet(1)", x.packet(1), 32);
-        settle(x);
+        Play.settle(x);
         for (int i = 0; i < 5; i++) {
             due.is("10: all is confirmed", x.tick(), 0);
         }
@@ -558,7 +541,7 @@ public final class PromiseTest {
         x.add(1, 0, 1);
         x.add(0, 4, 1);
         x.add(0, 4, 1);
-        dropAll(x);
+        Play.dropAll(x);
         due.is("10: time 1", x.tick(), 0);
         due.is("10: time 2", x.tick(), 0);
         due.is("10: time 3", x.tick(), 3);
@@ -615,7 +598,7 @@ public final class PromiseTest {
 
     private static void promise12() {
         GradientShards x = new GradientShards(2, 0, 0);
-        for (int h : WRONG_SHARDS) {
+        for (int h : Play.NO_SHARDS) {
             due.no("12: kill(" + h + ")", x.kill(h));
         }
         x.add(0, 0, 1);
@@ -645,7 +628,7 @@ public final class PromiseTest {
 
     private static void promise13() {
         GradientShards x = new GradientShards(1, 1, 0);
-        for (int h : WRONG_SHARDS) {
+        for (int h : Play.NO_SHARDS) {
             due.no("13: recover(" + h + ")", x.recover(h));
         }
         due.no("13: recover(0) when it is up", x.recover(0));
@@ -721,7 +704,7 @@ public final class PromiseTest {
 
     private static void promise14() {
         GradientShards x = new GradientShards(2, 0, 0);
-        for (int h : WRONG_SHARDS) {
+        for (int h : Play.NO_SHARDS) {
             due.is("14: checkpoint(" + h + ")", x.checkpoint(h), -1);
         }
         due.is("14: count(4) so far", x.count(4), 0);
@@ -733,7 +716,7 @@ public final class PromiseTest {
         x.advance(0);
         x.advance(1);
         x.add(0, 1, 6);
-        settle(x);
+        Play.settle(x);
         due.is("14: checkpoint(1)", x.checkpoint(1), 5);
         due.is("14: kept(0, 1)", x.kept(0, 1), 1);
         due.is("14: kept(1, 1)", x.kept(1, 1), 0);
@@ -784,7 +767,7 @@ public final class PromiseTest {
         x.advance(1);
         x.add(1, 0, 4);
         x.add(1, 0, 4);
-        settle(x);
+        Play.settle(x);
         due.is("14: done(0)", x.done(0), 1);
         due.is("14: only what the least worker has ended", x.checkpoint(0), 3);
         due.is("14: kept(0, 0)", x.kept(0, 0), 2);
@@ -803,14 +786,14 @@ public final class PromiseTest {
 
     private static void promise15() {
         GradientShards x = new GradientShards(2, 3, 0);
-        for (int h : WRONG_SHARDS) {
+        for (int h : Play.NO_SHARDS) {
             due.is("15: done(" + h + ")", x.done(h), -1);
         }
         x.advance(0);
         x.advance(0);
         x.add(1, 0, 1);
         x.advance(1);
-        settle(x);
+        Play.settle(x);
         due.is("15: done(0)", x.done(0), 1);
         x.add(1, 0, 1);
         x.advance(1);
@@ -827,7 +810,7 @@ public final class PromiseTest {
 
     private static void promise16() {
         GradientShards x = new GradientShards(2, 0, 0);
-        for (int h : WRONG_SHARDS) {
+        for (int h : Play.NO_SHARDS) {
             due.is("16: early(" + h + ")", x.early(h), -1);
         }
         for (int i = 0; i < 4; i++) {
@@ -850,7 +833,7 @@ public final class PromiseTest {
 
     private static void promise17And18() {
         GradientShards x = new GradientShards(2, 0, 0);
-        for (int h : WRONG_SHARDS) {
+        for (int h : Play.NO_SHARDS) {
             due.is("17: kept(0, " + h + ")", x.kept(0, h), -1);
             due.is("18: unconfirmed(0, " + h + ")", x.unconfirmed(0, h), -1);
         }
