@@ -1,6 +1,7 @@
 /** Counts the answers that were looked at and prints each one that is not the one that is due. */
 final class Due {
     private final String what;
+    private String sentence = "";
     private int looked;
     private int wrong;
 
@@ -8,11 +9,16 @@ final class Due {
         this.what = what;
     }
 
+    /** What is looked at from now on is due by this sentence, which is printed with what is wrong. */
+    void by(String sentence) {
+        this.sentence = sentence.isEmpty() ? "" : "'" + sentence + "': ";
+    }
+
     void is(String call, long got, long want) {
         looked++;
         if (got != want) {
             wrong++;
-            System.out.println(what + ": " + call + " answered " + got + ", due is " + want);
+            System.out.println(what + ": " + sentence + call + " answered " + got + ", due is " + want);
         }
     }
 

@@ -4,6 +4,8 @@ import java.lang.reflect.Method;
 import java.lang.reflect.Modifier;
 import java.util.Set;
 import java.util.TreeSet;
+import java.util.regex.Matcher;
+import java.util.regex.Pattern;
 
 /** The class shows the document's face and nothing more. */
 public final class FaceTest {
@@ -30,6 +32,8 @@ public final class FaceTest {
             }
         }
         due.yes("methods " + shown, shown.equals(FACE));
+        Set<String> documented = methodsOfDocument();
+        due.yes("methods of the document " + documented, documented.equals(FACE));
         for (Field f : face.getDeclaredFields()) {
             due.yes("private: " + f, Modifier.isPrivate(f.getModifiers()));
         }
@@ -40,6 +44,16 @@ public final class FaceTest {
             due.yes("static: " + inside, Modifier.isStatic(inside.getModifiers()));
         }
         due.close();
+    }
+
+    /** The lines of the document's face, without the names of what the methods take. */
+    private static Set<String> methodsOfDocument() {
+        Set<String> methods = new TreeSet<>();
+        Matcher line = Pattern.compile("public (\\w+ \\w+\\(.*\\));").matcher(Document.textUnder("The public face"));
+        while (line.find()) {
+            methods.add(line.group(1).replaceAll("(?<=int) \\w+(?=[,)])", ""));
+        }
+        return methods;
     }
 
     private static String signature(Method m) {

@@ -57,10 +57,6 @@ public final class NetBoundaryTest {
         return x;
     }
 
-    private static int newest(GradientShards x) {
-        return x.packet(x.packets() - 1);
-    }
-
     private static void deliverOfWhichPacket() {
         DUE.is("7: the only one", pushes(1).deliver(0), 1);
         DUE.is("7: the oldest of 3", pushes(3).deliver(0), 1);
@@ -96,7 +92,7 @@ public final class NetBoundaryTest {
         x.recover(0);
         DUE.is("7: it had not been taken", x.deliver(0), 1);
         DUE.is("7: so there is no double", x.count(3), 0);
-        DUE.is("7: its ack", newest(x), Play.ack(0, 0, 1));
+        DUE.is("7: its ack", Play.newest(x), Play.ack(0, 0, 1));
     }
 
     private static void deliverTaken() {
@@ -106,7 +102,7 @@ public final class NetBoundaryTest {
         DUE.is("7: first is no double", x.count(3), 0);
         DUE.is("7: second", x.deliver(0), 2);
         DUE.is("7: second is one", x.count(3), 1);
-        DUE.is("7: a double has its ack, too", newest(x), Play.ack(0, 0, 1));
+        DUE.is("7: a double has its ack, too", Play.newest(x), Play.ack(0, 0, 1));
         DUE.is("7: third", x.deliver(0), 2);
         DUE.is("7: third is one", x.count(3), 2);
         DUE.is("7: three acks", x.packets(), 3);
@@ -119,12 +115,12 @@ public final class NetBoundaryTest {
         x.copy(1);
         DUE.is("7: number 1 before number 0", x.deliver(1), 1);
         DUE.is("7: its double while it is early", x.deliver(1), 2);
-        DUE.is("7: TURN is 0", newest(x), Play.ack(0, 0, 0));
+        DUE.is("7: TURN is 0", Play.newest(x), Play.ack(0, 0, 0));
         DUE.is("7: one is early", x.early(0), 1);
         DUE.is("7: number 0", x.deliver(0), 1);
-        DUE.is("7: TURN is 2", newest(x), Play.ack(0, 0, 2));
+        DUE.is("7: TURN is 2", Play.newest(x), Play.ack(0, 0, 2));
         DUE.is("7: its double when it is handled", x.deliver(0), 2);
-        DUE.is("7: TURN is still 2", newest(x), Play.ack(0, 0, 2));
+        DUE.is("7: TURN is still 2", Play.newest(x), Play.ack(0, 0, 2));
         DUE.is("7: two doubles", x.count(3), 2);
     }
 
@@ -141,9 +137,9 @@ public final class NetBoundaryTest {
         DUE.is("7: START is 2", x.kept(0, 0), 1);
         DUE.is("7: a push before START", x.deliver(0), 2);
         DUE.is("7: an END before START", x.deliver(0), 2);
-        DUE.is("7: TURN is 2", newest(x), Play.ack(0, 0, 2));
+        DUE.is("7: TURN is 2", Play.newest(x), Play.ack(0, 0, 2));
         DUE.is("7: the one at START", Play.deliverCode(x, Play.data(0, 0, 2)), 1);
-        DUE.is("7: TURN is 3", newest(x), Play.ack(0, 0, 3));
+        DUE.is("7: TURN is 3", Play.newest(x), Play.ack(0, 0, 3));
     }
 
     /** Packet 0 is number 0, taken long ago; so many came after it, of which the last is not taken. */
@@ -198,7 +194,7 @@ public final class NetBoundaryTest {
     private static void deliverAckOfEarlyMessage() {
         GradientShards x = pushes(2);
         x.deliver(1);
-        DUE.is("7: the ack has the number 0", newest(x), Play.ack(0, 0, 0));
+        DUE.is("7: the ack has the number 0", Play.newest(x), Play.ack(0, 0, 0));
         DUE.is("7: 0 is not more than 0", x.deliver(1), 5);
         DUE.is("7: nothing is confirmed", x.unconfirmed(0, 0), 2);
     }

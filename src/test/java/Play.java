@@ -1,3 +1,6 @@
+import java.util.ArrayList;
+import java.util.List;
+
 /** Ways of using an object that several tests share. */
 final class Play {
     static final int[] NO_SHARDS = {-1, 3, Integer.MIN_VALUE, Integer.MAX_VALUE};
@@ -53,14 +56,25 @@ final class Play {
         }
     }
 
-    /** Delivers the packet that packet(i) answers with this code, and says what deliver answers. */
+    /** What deliver answers for the oldest packet that packet(i) answers with this code; 0 if none is there. */
     static int deliverCode(GradientShards x, int code) {
-        for (int i = 0; i < x.packets(); i++) {
-            if (x.packet(i) == code) {
-                return x.deliver(i);
-            }
+        int i = packets(x).indexOf(code);
+        return i < 0 ? 0 : x.deliver(i);
+    }
+
+    /** What packet(i) answers for each packet that is there. */
+    static List<Integer> packets(GradientShards x) {
+        List<Integer> codes = new ArrayList<>();
+        int packets = x.packets();
+        for (int i = 0; i < packets; i++) {
+            codes.add(x.packet(i));
         }
-        return 0;
+        return codes;
+    }
+
+    /** What packet(i) answers for the newest packet; -1 if there is none. */
+    static int newest(GradientShards x) {
+        return x.packet(x.packets() - 1);
     }
 
     static int data(int w, int h, int number) {
