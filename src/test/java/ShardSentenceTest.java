@@ -1,4 +1,5 @@
 import java.util.ArrayList;
+import java.util.Arrays;
 import java.util.List;
 
 /** Promises 12 to 18, sentence by sentence. */
@@ -160,8 +161,12 @@ public final class ShardSentenceTest {
         for (int acked = 0; acked <= 3; acked++) {
             recoverConfirmsBoundary(acked);
         }
-        for (int seed = 0; seed < 300; seed++) {
-            confirmedChangesAsSaid(seed);
+        int[] met = new int[3];
+        for (int seed = 0; seed < 600; seed++) {
+            confirmedChangesAsSaid(seed, met);
+        }
+        for (int times : met) {
+            DUE.yes("acks, recoveries and checkpoints changed it " + Arrays.toString(met) + " times", times > 50);
         }
     }
 
@@ -246,16 +251,20 @@ public final class ShardSentenceTest {
     }
 
     /** CONFIRMED of a link is changed by an ack with news, by recover and checkpoint, and by no other call. */
-    private static void confirmedChangesAsSaid(int seed) {
+    private static void confirmedChangesAsSaid(int seed, int[] met) {
         int workers = 1 + seed % 2;
         GradientShards x = new GradientShards(workers, 2, 0);
         Caller caller = new Caller(seed, workers, x);
         int[] made = new int[6];
         int[] due = new int[6];
-        for (int step = 0; step < 40; step++) {
+        for (int step = 0; step < (workers == 1 ? 70 : 44); step++) {
             Caller.Call call = caller.next();
             noteMade(made, call);
+            int[] before = due.clone();
             noteConfirmed(due, call, x, workers, made);
+            if (!Arrays.equals(before, due)) {
+                met[call.is("deliver") ? 0 : call.is("recover") ? 1 : 2]++;
+            }
             for (int link = 0; link < 3 * workers; link++) {
                 String name = "seed " + seed + ", step " + step + ", " + call + ": CONFIRMED of link ";
                 int got = made[link] - x.unconfirmed(link / 3, link % 3);
@@ -472,6 +481,7 @@ public final class ShardSentenceTest {
             }
             REFUSED.isMinusOne("down: early(" + h + ")", () -> allDown(), x -> x.early(shard));
         }
+        earlyOnLinkOfLongUse();
         for (int h : Play.NO_SHARDS) {
             REFUSED.isMinusOne("early(" + h + ")", Play::busy, x -> x.early(h));
         }
@@ -493,6 +503,23 @@ public final class ShardSentenceTest {
                 int due = (w + 1) * earlyOfOne[i + 1] + (workers - w - 1) * earlyOfOne[i];
                 DUE.is("number " + order[i] + " of worker " + w + ": early(" + h + ")", x.early(h), due);
                 DUE.is("early of another shard", x.early((h + 1) % 3), 0);
+            }
+        }
+    }
+
+    /** More messages than a worker can keep at once have come and gone: none of them is early. */
+    private static void earlyOnLinkOfLongUse() {
+        GradientShards x = new GradientShards(1, 0, 0);
+        for (int number = 0; number < 60; number += 2) {
+            x.add(0, 0, 1);
+            x.advance(0);
+            DUE.is("END " + (number + 1), x.deliver(1), 1);
+            DUE.is("END " + (number + 1) + " comes first: early(0)", x.early(0), 1);
+            DUE.is("PUSH " + number, x.deliver(0), 1);
+            DUE.is("PUSH " + number + " comes then: early(0)", x.early(0), 0);
+            DUE.is("the other ENDs and all acks", x.run(6), 6);
+            for (int h = 0; h < 3; h++) {
+                x.checkpoint(h);
             }
         }
     }
